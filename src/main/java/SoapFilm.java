@@ -715,7 +715,6 @@ public final class SoapFilm {
         void parse() {
             rows = 0;
             reason = NO_FAULT;
-            position = 0;
             int start = 0;
             while (start <= length && reason == NO_FAULT) {
                 int end = findSign(',', start, length);

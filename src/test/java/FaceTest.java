@@ -98,6 +98,8 @@ public final class FaceTest {
             }
             CHECK.holds(type + " has few fields", fields <= MOST_FIELDS);
             for (Method method : type.getDeclaredMethods()) {
+                CHECK.holds(method + " is public or has a name of its own", type == SoapFilm.class
+                        || List.of(FACE).stream().noneMatch(f -> f.startsWith(method.getName() + "(")));
                 CHECK.holds(method + " has few parameters", method.getParameterCount() <= MOST_PARAMETERS);
             }
             CHECK.holds(type + " is static or outermost",

@@ -23,6 +23,7 @@ public final class FilmTest {
         burstKeepsDrop();
         undoing();
         undoingEverythingButTheText();
+        undoingBackToABurst();
         historyOfFive();
         errorsChangeNothing();
         CHECK.end("FilmTest");
@@ -215,6 +216,10 @@ public final class FilmTest {
         x = Check.filmOf("5000", 0, 0, 0, 1, 0, 24, 100000);
         x.go(1000);
         CHECK.rows("no slope", x, 5000);
+        // 2329 * 2329 * 99 is 536999859
+        x = Check.filmOf("2329", 99, 0, 0, 1, 0, 24, 100000);
+        x.go(1);
+        CHECK.rows("just not 537", x, 1793);
     }
 
     private static void running() {
@@ -243,6 +248,13 @@ public final class FilmTest {
         x = Check.filmOf("30,100,29", 0, 0, 10, 30, 0, 24, 100000);
         x.go(1);
         CHECK.rows("no black row above", x, 30, 100, 29);
+        x = Check.filmOf("10,20", 0, 0, 10, 30, 0, 24, 100000);
+        x.go(1);
+        CHECK.rows("a black last row below a black row", x, 10, 20);
+        x = Check.filmOf("20x24", 0, 0, 10, 30, 0, 24, 100000);
+        x.go(1);
+        CHECK.due("24 black rows give nothing", x.count(22), 0);
+        CHECK.due("24 black rows", x.count(2), 24);
     }
 
     private static void drying() {
@@ -396,6 +408,24 @@ public final class FilmTest {
         x.cut();
         x.undo();
         CHECK.rows("behind undo of thin and of cut", x, top, bottom);
+    }
+
+    private static void undoingBackToABurst() {
+        SoapFilm x = Check.filmOf("100,6", 0, 1, 0, 30, 5, 24, 100000);
+        x.go(2);
+        x.dip(3, 20, 0);
+        x.set(5, 1);
+        x.go(1);
+        int[] latest = {2, 3, 2, 2};
+        int[] before = {1, 1, 1, 1};
+        for (int i = 0; i < latest.length; i++) {
+            CHECK.due("the latest burst: count(" + (6 + i) + ")", x.count(6 + i), latest[i]);
+        }
+        x.undo();
+        for (int i = 0; i < before.length; i++) {
+            CHECK.due("the burst before: count(" + (6 + i) + ")", x.count(6 + i), before[i]);
+        }
+        CHECK.rows("the film ahead of the latest burst", x, 20, 20, 20);
     }
 
     private static void historyOfFive() {

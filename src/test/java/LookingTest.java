@@ -109,6 +109,7 @@ public final class LookingTest {
         x.set(3, 10);
         CHECK.due("count(2) by another limit", x.count(2), 0);
         x = Check.filmOf("5000,100");
+        CHECK.due("count(4) of two colours", x.count(4), 2);
         CHECK.due("count(5) is the greatest, not the last", x.count(5), 25);
     }
 

@@ -77,6 +77,8 @@ public final class QuestionsTest {
         CHECK.due("until(2, 4) never, the film bursts", x.until(2, 4), -4);
         x = Check.filmOf("100,100", 0, 0, 0, 30, 5, 24, 100000);
         CHECK.due("until(2, 4) never, the film stays", x.until(2, 4), -4);
+        x = Check.filmOf("185", 0, 1, 0, 30, 5, 24, 100000);
+        CHECK.due("until(2, 4) of a single row", x.until(2, 4), 2);
         x = Check.filmOf("100,5", 0, 1, 0, 30, 5, 24, 100000);
         CHECK.due("until(2, 0), the film bursts before", x.until(2, 0), -4);
     }
