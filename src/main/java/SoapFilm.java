@@ -716,16 +716,17 @@ public final class SoapFilm {
             rows = 0;
             reason = NO_FAULT;
             int start = 0;
-            while (start <= length && reason == NO_FAULT) {
-                int end = findSign(',', start, length);
-                position = start;
-                reason = takePart(start, end);
-                start = end + 1;
+            for (int end = 0; end <= length && reason == NO_FAULT; end++) {
+                if (end == length || signs[end] == ',') {
+                    position = start;
+                    reason = takePart(start, end);
+                    start = end + 1;
+                }
             }
         }
 
         private int takePart(int start, int end) {
-            int cross = findSign('x', start, end);
+            int cross = findCross(start, end);
             int value = number(start, cross, THICKNESS_DIGITS);
             int times = cross < end ? number(cross + 1, end, TIMES_DIGITS) : 1;
             if (value == NO_NUMBER || times == NO_NUMBER) {
@@ -744,9 +745,9 @@ public final class SoapFilm {
             return NO_FAULT;
         }
 
-        private int findSign(char sign, int from, int end) {
+        private int findCross(int from, int end) {
             for (int i = from; i < end; i++) {
-                if (signs[i] == sign) {
+                if (signs[i] == 'x') {
                     return i;
                 }
             }

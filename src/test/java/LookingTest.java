@@ -197,15 +197,14 @@ public final class LookingTest {
     }
 
     private static void leastThicknesses(int colour) {
-        SoapFilm x = new SoapFilm();
         int from = 0;
         for (int i = 0; i < 100 && from >= 0 && from <= 5000; i++) {
-            int found = x.thicknessFor(colour, from);
+            int found = new SoapFilm().thicknessFor(colour, from);
             for (int t = from; t < (found == -4 ? 5001 : found); t++) {
-                CHECK.holds(t + " has not the colour " + colour, x.colourOf(t) != colour);
+                CHECK.holds(t + " has not the colour " + colour, new SoapFilm().colourOf(t) != colour);
             }
             if (found >= 0) {
-                CHECK.due("the colour of " + found, x.colourOf(found), colour);
+                CHECK.due("the colour of " + found, new SoapFilm().colourOf(found), colour);
             }
             from = found < 0 ? -1 : found + 37;
         }
